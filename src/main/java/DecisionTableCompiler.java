@@ -37,6 +37,9 @@ public final class DecisionTableCompiler {
     /** A full tree of four conditions with five values each: 1 + 5 + 25 + 125 + 625 nodes. */
     private static final int MAX_NODES = 781;
 
+    /** A full tree has 156 tests, and its leaves have one of ten actions or none. */
+    private static final int MAX_CLASSES = 167;
+
     /** In a cube each of four conditions has one of five values or is open: 6 * 6 * 6 * 6 cubes. */
     private static final int MAX_CUBES = 1296;
 
@@ -424,7 +427,7 @@ public final class DecisionTableCompiler {
             return NO_VALUE;
         }
         planner.plan(table);
-        return planner.costOfTest(planner.whole(), condition, table);
+        return planner.costWithTest(condition, table);
     }
 
     public int sample(int seed, int draws, int action) {
@@ -946,21 +949,25 @@ public final class DecisionTableCompiler {
     }
 
     /**
-     * Finds the best test for every cube. A cube is the set of cases in which each condition has one given
-     * value or is open. Its number has a digit for each condition: the value, or the number of values if the
-     * condition is open. So the parts of a cube have lower numbers than the cube, and the last cube is the
-     * whole table.
+     * Finds the rank of the best tree for every cube. A cube is the set of cases in which each condition has
+     * one given value or is open. Its number has a digit for each condition: the value, or the number of
+     * values if the condition is open. So the parts of a cube have lower numbers than the cube, and the last
+     * cube is the whole table. The rank of a tree is its expected cost in the high bits and its number of
+     * nodes in the low ones, so that the lowest rank has the minimum cost and, with it, the fewest nodes.
      */
     private static final class Planner {
-        int cubes;
+        /** More than the bits of MAX_NODES, so that the nodes never reach into the cost. */
+        private static final int COST_SHIFT = 10;
+        private static final long LEAF_RANK = 1;
+        /** Above every rank: no cost reaches 28 bits. */
+        private static final long NO_RANK = 1L << 62;
+
+        private int cubes;
         private final int[] steps = new int[MAX_CONDITIONS];
         private final int[] weights = new int[MAX_CUBES];
         /** The action that all cases of the cube have, or MIXED_ACTIONS. */
         final int[] actions = new int[MAX_CUBES];
-        /** The condition that the best tree of the cube tests first, or NO_TEST. */
-        final int[] tests = new int[MAX_CUBES];
-        final long[] costs = new long[MAX_CUBES];
-        private final int[] nodes = new int[MAX_CUBES];
+        private final long[] ranks = new long[MAX_CUBES];
 
         void plan(Table table) {
             cubes = 1;
@@ -970,12 +977,7 @@ public final class DecisionTableCompiler {
             }
             for (int cube = 0; cube < cubes; cube++) {
                 gather(cube, table);
-                costs[cube] = 0;
-                nodes[cube] = 1;
-                tests[cube] = NO_TEST;
-                if (actions[cube] == MIXED_ACTIONS) {
-                    chooseTest(cube, table);
-                }
+                ranks[cube] = actions[cube] == MIXED_ACTIONS ? lowestRank(cube, table) : LEAF_RANK;
             }
         }
 
@@ -988,36 +990,62 @@ public final class DecisionTableCompiler {
             return cube - (table.sizes[condition] - value) * steps[condition];
         }
 
-        long costOfTest(int cube, int condition, Table table) {
-            long cost = (long) table.costs[condition] * weights[cube];
-            for (int v = 0; v < table.sizes[condition]; v++) {
-                cost += costs[part(cube, condition, v, table)];
-            }
-            return cost;
+        long lowestCost() {
+            return ranks[whole()] >> COST_SHIFT;
         }
 
-        private int nodesOfTest(int cube, int condition, Table table) {
-            int count = 1;
-            for (int v = 0; v < table.sizes[condition]; v++) {
-                count += nodes[part(cube, condition, v, table)];
+        long costWithTest(int condition, Table table) {
+            return rankOfTest(whole(), condition, table) >> COST_SHIFT;
+        }
+
+        /** The lowest condition that the best tree of a cube can test first, or NO_TEST for a leaf. */
+        int bestTest(int cube, Table table) {
+            if (actions[cube] != MIXED_ACTIONS) {
+                return NO_TEST;
             }
-            return count;
+            for (int c = 0; c < table.conditions; c++) {
+                if (isOpen(cube, c, table) && rankOfTest(cube, c, table) == ranks[cube]) {
+                    return c;
+                }
+            }
+            return NO_TEST;
+        }
+
+        private long lowestRank(int cube, Table table) {
+            long lowest = NO_RANK;
+            for (int c = 0; c < table.conditions; c++) {
+                if (isOpen(cube, c, table)) {
+                    lowest = Math.min(lowest, rankOfTest(cube, c, table));
+                }
+            }
+            return lowest;
+        }
+
+        private long rankOfTest(int cube, int condition, Table table) {
+            long rank = ((long) table.costs[condition] * weights[cube] << COST_SHIFT) + 1;
+            for (int v = 0; v < table.sizes[condition]; v++) {
+                rank += ranks[part(cube, condition, v, table)];
+            }
+            return rank;
         }
 
         private int digitIn(int cube, int condition, Table table) {
             return remainder(quotient(cube, steps[condition]), table.sizes[condition] + 1);
         }
 
+        private boolean isOpen(int cube, int condition, Table table) {
+            return digitIn(cube, condition, table) == table.sizes[condition];
+        }
+
         /** Finds the weight and the action of a cube from its parts, or from its only case. */
         private void gather(int cube, Table table) {
             int number = 0;
             for (int c = 0; c < table.conditions; c++) {
-                int digit = digitIn(cube, c, table);
-                if (digit == table.sizes[c]) {
+                if (isOpen(cube, c, table)) {
                     gatherParts(cube, c, table);
                     return;
                 }
-                number += digit * table.strides[c];
+                number += digitIn(cube, c, table) * table.strides[c];
             }
             weights[cube] = table.weightOf(number);
             actions[cube] = table.actionFor(number);
@@ -1035,24 +1063,6 @@ public final class DecisionTableCompiler {
             }
             weights[cube] = weight;
             actions[cube] = action;
-        }
-
-        /** The lowest condition stays unless a later one is really better: fewer costs, then fewer nodes. */
-        private void chooseTest(int cube, Table table) {
-            for (int c = 0; c < table.conditions; c++) {
-                if (digitIn(cube, c, table) != table.sizes[c]) {
-                    continue;
-                }
-                long cost = costOfTest(cube, c, table);
-                int count = nodesOfTest(cube, c, table);
-                boolean better = tests[cube] == NO_TEST || cost < costs[cube]
-                        || (cost == costs[cube] && count < nodes[cube]);
-                if (better) {
-                    tests[cube] = c;
-                    costs[cube] = cost;
-                    nodes[cube] = count;
-                }
-            }
         }
     }
 
@@ -1073,14 +1083,14 @@ public final class DecisionTableCompiler {
         /** The class of equal subtrees to which the subtree of a node belongs. */
         final int[] classes = new int[MAX_NODES];
         /** The lowest node of each class. */
-        final int[] lowest = new int[MAX_NODES];
+        final int[] lowest = new int[MAX_CLASSES];
         /** The class of the leaves with each action, the leaves without one first, or -1. */
         private final int[] leafClasses = new int[MAX_ACTION + 2];
 
         void build(Planner planner, Table table) {
             count = 0;
             worst = 0;
-            expected = planner.costs[planner.whole()];
+            expected = planner.lowestCost();
             place(planner, table, planner.whole(), 0, 0);
             share(table);
         }
@@ -1095,7 +1105,7 @@ public final class DecisionTableCompiler {
                 return;
             }
             int node = count;
-            int condition = planner.tests[cube];
+            int condition = planner.bestTest(cube, table);
             count++;
             tests[node] = condition;
             actions[node] = condition == NO_TEST ? planner.actions[cube] : NO_ACTION;
