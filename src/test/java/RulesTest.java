@@ -37,6 +37,13 @@ public final class RulesTest {
         Due.due("remove of none", x.removeRule(0), -3);
         Due.due("ruleCount", x.ruleCount(), 0);
         Due.due("all are gaps", x.gapCount(), 4);
+        DecisionTableCompiler y = Due.table(Due.sizes(2, 3, 4, 5), "*,*,*,*:0", "0,1,2,3:1", "1,2,3,4:2");
+        y.removeRule(0);
+        for (int rule = 0; rule < 2; rule++) {
+            for (int c = 0; c < 4; c++) {
+                Due.due("a moved set", y.ruleSet(rule, c), 1 << c + rule);
+            }
+        }
     }
 
     private static void ruleFaults() {
@@ -104,6 +111,10 @@ public final class RulesTest {
         for (int bad : new int[] {MIN, -1, 5, MAX}) {
             Due.due("gap(" + bad + ")", x.gap(bad), -6);
         }
+        DecisionTableCompiler y = Due.table(Due.sizes(2, 2), "1,*:1");
+        Due.due("the first case is a gap", y.gap(0), 0);
+        Due.due("the second case is a gap", y.gap(1), 1);
+        Due.due("the last case is none", y.gap(2), -6);
         x.setDefault(3);
         Due.due("gaps with a default", x.gapCount(), 5);
         Due.due("a gap with a default", x.gap(4), 8);
@@ -123,6 +134,11 @@ public final class RulesTest {
         Due.due("gapWeight", x.gapWeight(), 2 * 3 + 5 * 7 + 5 * 3);
         x.setDefault(1);
         Due.due("gapWeight with a default", x.gapWeight(), 56);
+        x.removeRule(0);
+        Due.add(x, "*,1:1");
+        Due.due("gapWeight with the first case, without the last", x.gapWeight(), 2 * 7 + 5 * 7);
+        x.removeRule(0);
+        Due.due("gapWeight of all", x.gapWeight(), 7 * 10);
         DecisionTableCompiler y = Due.table(Due.sizes(5, 5, 5, 5));
         for (int c = 0; c < 4; c++) {
             for (int v = 0; v < 5; v++) {

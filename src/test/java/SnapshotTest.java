@@ -2,6 +2,7 @@
 public final class SnapshotTest {
     public static void main(String[] args) {
         everything();
+        largest();
         replaced();
         keeps();
         trees();
@@ -37,6 +38,42 @@ public final class SnapshotTest {
             Due.due("cost", x.setCost(0, 1), 4);
             Due.add(x, "*,*:0");
             x.reset(5, 5, 5, 5);
+        }
+    }
+
+    /** Four conditions of five values with twelve rules, and no place of them like another table's. */
+    private static void largest() {
+        DecisionTableCompiler x = Due.table(Due.sizes(5, 5, 5, 5));
+        for (int rule = 0; rule < 12; rule++) {
+            String digit = "" + rule % 5;
+            Due.add(x, "*," + digit + ",*," + (4 - rule % 5) + ":" + rule % 7);
+        }
+        for (int c = 0; c < 4; c++) {
+            x.setCost(c, 2 + c);
+            for (int v = 0; v < 5; v++) {
+                x.setWeight(c, v, 9 - c - v);
+            }
+        }
+        Due.due("snapshot", x.snapshot(), 12);
+        x.reset(2, 0, 0, 0);
+        Due.add(x, "0:9");
+        Due.due("restore", x.restore(), 12);
+        Due.due("conditionCount", x.conditionCount(), 4);
+        Due.due("caseCount", x.caseCount(), 625);
+        Due.due("the lowest digit", x.valueIn(624, 3), 4);
+        Due.due("a new match of the last value", x.matches(4), 1 << 0 | 1 << 5 | 1 << 10);
+        for (int rule = 0; rule < 12; rule++) {
+            Due.due("set 0 of rule " + rule, x.ruleSet(rule, 0), 31);
+            Due.due("set 1 of rule " + rule, x.ruleSet(rule, 1), 1 << rule % 5);
+            Due.due("set 2 of rule " + rule, x.ruleSet(rule, 2), 31);
+            Due.due("set 3 of rule " + rule, x.ruleSet(rule, 3), 1 << 4 - rule % 5);
+            Due.due("action of rule " + rule, x.ruleAction(rule), rule % 7);
+        }
+        for (int c = 0; c < 4; c++) {
+            Due.due("cost of " + c, x.setCost(c, 1), 2 + c);
+            for (int v = 0; v < 5; v++) {
+                Due.due("weight " + v + " of " + c, x.setWeight(c, v, 1), 9 - c - v);
+            }
         }
     }
 
