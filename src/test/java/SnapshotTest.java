@@ -55,8 +55,11 @@ public final class SnapshotTest {
             }
         }
         Due.due("snapshot", x.snapshot(), 12);
+        x.reset(5, 5, 5, 5);
+        for (int rule = 0; rule < 12; rule++) {
+            Due.add(x, "0,*,0,*:9");
+        }
         x.reset(2, 0, 0, 0);
-        Due.add(x, "0:9");
         Due.due("restore", x.restore(), 12);
         Due.due("conditionCount", x.conditionCount(), 4);
         Due.due("caseCount", x.caseCount(), 625);

@@ -190,6 +190,11 @@ public final class TreeTest {
         Due.due("both roots cost the same", z.costWithRoot(0), z.costWithRoot(1));
         Due.due("compile", z.compile(), 9);
         Due.due("fewer nodes come before the lower condition", z.node(0, 0), 1);
+        DecisionTableCompiler w = Due.table(Due.sizes(3, 5), "*,2:1", "2,*:2");
+        w.setWeight(1, 2, 0);
+        Due.due("both roots cost the same", w.costWithRoot(0), w.costWithRoot(1));
+        Due.due("compile: 18 nodes with 5 tests, not 19 with 4", w.compile(), 18);
+        Due.due("a test and a leaf count alike", w.node(0, 0), 1);
     }
 
     private static void lowestCondition() {
