@@ -179,9 +179,9 @@ public final class ArraysTest {
     }
 
     private static void copyRanges() {
-        DecisionTableCompiler x = twoRows();
         int[] numbers = {MIN, -1, 0, 1, 2, 3, 4, 5, 6, 7, MAX - 3, MAX};
         for (int from : numbers) {
+            DecisionTableCompiler x = twoRows();
             for (int to : numbers) {
                 for (int count : numbers) {
                     boolean fine = from >= 0 && to >= 0 && count >= 0
@@ -190,8 +190,8 @@ public final class ArraysTest {
                     Due.due(call, x.copyElements(0, from, 1, to, count), fine ? count : -13);
                 }
             }
+            rowIs(x, 0, 10, 11, 12, 13, 14, 15);
         }
-        rowIs(x, 0, 10, 11, 12, 13, 14, 15);
     }
 
     private static void storeActions() {

@@ -4,6 +4,8 @@ import java.util.Random;
 public final class ModelTest {
     private static final int RUNS = 250;
     private static final int CALLS = 512;
+    /** No step makes more calls, so that no object is used for more than CALLS. */
+    private static final int STEP = 45;
 
     private final Random random;
     private final DecisionTableCompiler x = new DecisionTableCompiler();
@@ -24,7 +26,7 @@ public final class ModelTest {
     public static void main(String[] args) {
         for (int run = 1; run <= RUNS; run++) {
             ModelTest one = new ModelTest(run);
-            while (one.calls < CALLS) {
+            while (one.calls + STEP <= CALLS) {
                 one.step();
             }
         }

@@ -30,16 +30,14 @@ public final class RoomTest {
     private static void callsMakeNothing() {
         ThreadMXBean bean = (ThreadMXBean) ManagementFactory.getThreadMXBean();
         long self = Thread.currentThread().getId();
-        DecisionTableCompiler x = new DecisionTableCompiler();
+        long made = 0;
         // The first rounds load what the machine needs itself.
-        for (int round = 0; round < 20; round++) {
+        for (int round = -20; round < ROUNDS; round++) {
+            DecisionTableCompiler x = new DecisionTableCompiler();
+            long before = bean.getThreadAllocatedBytes(self);
             useAll(x);
+            made += round < 0 ? 0 : bean.getThreadAllocatedBytes(self) - before;
         }
-        long before = bean.getThreadAllocatedBytes(self);
-        for (int round = 0; round < ROUNDS; round++) {
-            useAll(x);
-        }
-        long made = bean.getThreadAllocatedBytes(self) - before;
         // Less than one object a round; what there is, the machine's counting made.
         Due.due("bytes made by the calls: " + made, made < ROUNDS * 16 ? 1 : 0, 1);
         Due.due("the calls were made", sink != 0 ? 1 : 0, 1);

@@ -36,6 +36,17 @@ public final class RulesEdgesTest extends Edges {
         due("ruleCases(0)", x.ruleCases(0), 1);
     }
 
+    @Sentence(promise = 0, says = "A rule matches a case if, for each condition, the value of the case is in the set of the rule.")
+    private static void everyConditionMustFit() {
+        DecisionTableCompiler x = table(5, 5, 5, 5, "4,4,4,4:0");
+        due("all fit", x.matches(624), 1);
+        for (int apart : numbers(1, 5, 25, 125)) {
+            due("all but one fit", x.matches(624 - apart), 0);
+            due("all but one fit", x.matches(624 - 4 * apart), 0);
+        }
+        due("none fits", x.matches(0), 0);
+    }
+
     @Sentence(promise = 0, says = "The action of a case is that of the first rule that matches it.")
     private static void firstRuleDecides() {
         DecisionTableCompiler x = table(2, 2, 0, 0, "*,*:3", "0,0:4");

@@ -30,7 +30,7 @@ public final class SampleTest {
         DecisionTableCompiler x = Due.table(Due.sizes(5), "0:0", "1:1", "2:2", "3:3");
         int state = 1;
         int[] counts = new int[5];
-        for (int draw = 1; draw <= 100; draw++) {
+        for (int draw = 1; draw <= 90; draw++) {
             state = state * 1103515245 + 12345;
             counts[(state >>> 16) % 5]++;
             for (int v = 0; v < 5; v++) {

@@ -89,6 +89,22 @@ public final class SnapshotEdgesTest extends Edges {
         due("default", x.setDefault(-1), NONE);
     }
 
+    @Sentence(promise = 46, says = "rules and default action.")
+    private static void overwrittenRules() {
+        DecisionTableCompiler x = withRules(12);
+        x.snapshot();
+        x.reset(2, 3, 0, 0);
+        for (int rule = 0; rule < 12; rule++) {
+            Due.add(x, "*,*:7");
+        }
+        due("restore()", x.restore(), 12);
+        for (int rule = 0; rule < 12; rule++) {
+            due("ruleAction(" + rule + ")", x.ruleAction(rule), rule % 10);
+            due("ruleSet(" + rule + ", 0)", x.ruleSet(rule, 0), 1 << rule % 2);
+            due("ruleSet(" + rule + ", 1)", x.ruleSet(rule, 1), 1 << rule % 3);
+        }
+    }
+
     @Sentence(promise = 46, says = "Returns the number of rules.")
     private static void snapshotAnswers() {
         due("of none", fresh().snapshot(), 0);

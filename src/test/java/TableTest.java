@@ -9,7 +9,8 @@ public final class TableTest {
         resetClears();
         resetKeeps();
         counts();
-        valueIn();
+        everyValue();
+        noValue();
         setWeight();
         setCost();
         setDefault();
@@ -37,10 +38,10 @@ public final class TableTest {
     }
 
     private static void resetAnswers() {
-        DecisionTableCompiler x = new DecisionTableCompiler();
         int[] numbers = {MIN, -1, 0, 1, 2, 3, 5, 6, MAX};
         for (int a : numbers) {
             for (int b : numbers) {
+                DecisionTableCompiler x = new DecisionTableCompiler();
                 for (int c : numbers) {
                     for (int d : numbers) {
                         String call = "reset(" + a + ", " + b + ", " + c + ", " + d + ")";
@@ -114,7 +115,7 @@ public final class TableTest {
         Due.due("caseCount of 2 3 4 5", x.caseCount(), 120);
     }
 
-    private static void valueIn() {
+    private static void everyValue() {
         DecisionTableCompiler x = new DecisionTableCompiler();
         x.reset(2, 3, 4, 5);
         int number = 0;
@@ -131,6 +132,11 @@ public final class TableTest {
                 }
             }
         }
+    }
+
+    private static void noValue() {
+        DecisionTableCompiler x = new DecisionTableCompiler();
+        x.reset(2, 3, 4, 5);
         for (int bad : new int[] {MIN, -1, 120, MAX}) {
             Due.due("valueIn of no case", x.valueIn(bad, 0), -5);
             Due.due("valueIn: the case is checked first", x.valueIn(bad, 9), -5);

@@ -86,6 +86,20 @@ public final class TreeEdgesTest extends Edges {
         }
     }
 
+    @Sentence(promise = 0, says = "The expected cost of a tree is the sum, over all cases, of the weight of the case times the sum of the test costs of the nodes that test it.")
+    private static void costsTimesWeights() {
+        DecisionTableCompiler x = table(2, 2, 0, 0, "0,*:0", "1,0:1");
+        x.setCost(0, 2);
+        x.setCost(1, 9);
+        x.setWeight(0, 0, 3);
+        x.setWeight(1, 1, 5);
+        due("compile()", x.compile(), 5);
+        due("expectedCost()", x.expectedCost(), 2 * (3 + 15 + 1 + 5) + 9 * (1 + 5));
+        x.setWeight(0, 1, 0);
+        x.compile();
+        due("the second test for no weight", x.expectedCost(), 2 * (3 + 15));
+    }
+
     @Sentence(promise = 0, says = "The compiled tree has the minimum expected cost")
     private static void cheapestTree() {
         DecisionTableCompiler x = table(2, 2, 0, 0, "0,1:1", "1,0:1", "1,1:2", "0,0:2");
@@ -113,6 +127,10 @@ public final class TreeEdgesTest extends Edges {
         y.setWeight(0, 1, 0);
         due("a part of weight 0 is small too", y.compile(), 6);
         due("the higher condition", y.node(2, 0), 2);
+        DecisionTableCompiler z = table(3, 5, 0, 0, "*,2:1", "2,*:2");
+        z.setWeight(1, 2, 0);
+        due("both roots cost the same", z.costWithRoot(0), z.costWithRoot(1));
+        due("18 nodes with 5 tests, not 19 with 4", z.compile(), 18);
     }
 
     @Sentence(promise = 0, says = "every node, from the root on, tests the lowest condition that is possible.")
@@ -171,6 +189,10 @@ public final class TreeEdgesTest extends Edges {
         due("condition 2", other.node(4, 0), 2);
         due("are not equal", other.sharedNode(4), 4);
         due("sharedNodeCount()", other.sharedNodeCount(), 5);
+        DecisionTableCompiler ends = table(3, 3, 0, 0, "01,0:0", "01,1:1", "02,2:2", "1,2:3", "2,0:4", "2,1:5");
+        due("compile()", ends.compile(), 13);
+        due("the last children differ", ends.sharedNode(5), 5);
+        due("the last children alone are equal", ends.sharedNode(9), 9);
         DecisionTableCompiler equal = table(3, 2, 0, 0, "02,0:0", "02,1:1");
         equal.setCost(1, 9);
         due("compile()", equal.compile(), 8);
@@ -304,6 +326,31 @@ public final class TreeEdgesTest extends Edges {
         DecisionTableCompiler x = withRules(2);
         int nodes = x.compile();
         due("again", x.compile(), nodes);
+    }
+
+    @Sentence(promise = 29, says = "Compiles the decision tree.")
+    private static void smallerAfterLarger() {
+        DecisionTableCompiler x = largest();
+        due("the largest", x.compile(), 781);
+        due("again", x.compile(), 781);
+        due("sharedNodeCount()", x.sharedNodeCount(), 9);
+        x.reset(2, 2, 0, 0);
+        Due.add(x, "*,0:3");
+        due("a small one", x.compile(), 3);
+        nodeIs(x, 0, 1, NONE, 3, 0);
+        nodeIs(x, 1, NONE, 3, 1, 1);
+        nodeIs(x, 2, NONE, NONE, 1, 1);
+        due("expectedCost()", x.expectedCost(), 4);
+        due("worstCost()", x.worstCost(), 1);
+        due("sharedNodeCount()", x.sharedNodeCount(), 3);
+        for (int node = 0; node < 3; node++) {
+            due("sharedNode(" + node + ")", x.sharedNode(node), node);
+        }
+        due("leafOf(3)", x.leafOf(3), 2);
+        x.removeRule(0);
+        due("the smallest", x.compile(), 1);
+        due("worstCost()", x.worstCost(), 0);
+        due("sharedNodeCount()", x.sharedNodeCount(), 1);
     }
 
     @Sentence(promise = 30, says = "Returns the expected cost")

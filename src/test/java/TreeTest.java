@@ -15,6 +15,7 @@ public final class TreeTest {
         fewestNodes();
         lowestCondition();
         largest();
+        leavesOfTheLargest();
         sharedLevels();
         costWithRoot();
         compileAgain();
@@ -209,7 +210,7 @@ public final class TreeTest {
     }
 
     /** Four conditions of five values, none of which can be left out: a tree of 781 nodes. */
-    private static void largest() {
+    private static DecisionTableCompiler largestTable() {
         DecisionTableCompiler x = Due.table(Due.sizes(5, 5, 5, 5), "13,024,024,024:1", "024,13,024,024:1",
                 "024,024,13,024:1", "024,024,024,13:1", "024,13,13,13:1", "13,024,13,13:1",
                 "13,13,024,13:1", "13,13,13,024:1");
@@ -219,20 +220,33 @@ public final class TreeTest {
                 x.setWeight(c, v, 9);
             }
         }
+        return x;
+    }
+
+    private static void largest() {
+        DecisionTableCompiler x = largestTable();
         int nodes = x.compile();
         Due.due("compile", nodes, 781);
         Due.due("worstCost", x.worstCost(), 36);
         Due.due("expectedCost", x.expectedCost(), 36L * 45 * 45 * 45 * 45);
         Due.due("costWithRoot(3)", x.costWithRoot(3), 36L * 45 * 45 * 45 * 45);
         Due.due("two leaves and two tests of each condition but the root", x.sharedNodeCount(), 9);
-        for (int number = 0; number < 625; number++) {
-            int leaf = x.leafOf(number);
-            Due.due("the leaf of " + number, x.node(leaf, 1), x.action(number));
-            Due.due("it is a leaf", x.node(leaf, 0), -6);
-        }
         Due.due("the root's subtree", x.node(0, 2), nodes);
         Due.due("the last node", x.node(nodes - 1, 2), 1);
         Due.due("no node behind it", x.node(nodes, 2), -1);
+    }
+
+    /** Some cases at a time, since an object is good for 512 calls. */
+    private static void leavesOfTheLargest() {
+        for (int first = 0; first < 625; first += 75) {
+            DecisionTableCompiler x = largestTable();
+            x.compile();
+            for (int number = first; number < Math.min(625, first + 75); number++) {
+                int leaf = x.leafOf(number);
+                Due.due("the leaf of " + number, x.node(leaf, 1), x.action(number));
+                Due.due("it is a leaf", x.node(leaf, 0), -6);
+            }
+        }
     }
 
     private static void sharedLevels() {
